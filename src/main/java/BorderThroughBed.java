@@ -880,6 +880,7 @@ public final class BorderThroughBed {
         private final int[] bedSpots = new int[PLACES];
         private final int[] otherSpots = new int[PLACES];
         private final int[] doors = new int[MOST_CELLS];
+        private final int[] doorSteps = new int[MOST_CELLS];
         private final int[] costs = new int[MOST_CELLS];
         private int cells;
         private int rows;
@@ -952,25 +953,24 @@ public final class BorderThroughBed {
         private void findDoors() {
             for (int cell = 0; cell < MOST_CELLS; cell++) {
                 doors[cell] = NONE;
+                doorSteps[cell] = FAR;
             }
             for (int cell = 0; cell < cells && cell < MOST_CELLS; cell++) {
-                if (isOpen(cell)) {
-                    doors[cell] = nearestDoor(cell);
+                if (kinds[cell] == DOOR) {
+                    findWhereNearest(cell);
                 }
             }
         }
 
-        private int nearestDoor(int from) {
-            measure(from, 0, 0);
-            int found = NONE;
-            int least = FAR;
+        /** STEPS are as many to a DOOR as from it; of like ones the DOOR ahead stays. */
+        private void findWhereNearest(int door) {
+            measure(door, 0, 0);
             for (int cell = 0; cell < cells && cell < MOST_CELLS; cell++) {
-                if (kinds[cell] == DOOR && costs[cell] < least) {
-                    least = costs[cell];
-                    found = cell;
+                if (costs[cell] < doorSteps[cell]) {
+                    doorSteps[cell] = costs[cell];
+                    doors[cell] = door;
                 }
             }
-            return found;
         }
 
         boolean isThere() {
