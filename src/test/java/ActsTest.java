@@ -74,7 +74,8 @@ public final class ActsTest {
         String[] laws = {"wa0-0", "ea0-0h", "ea0-0n", "ea0-0f", "ea0-0o", "wa0-0h", "wa0-0f",
             "wa0-0o"};
         BorderThroughBed x = Check.with("..|.d/..|##", laws);
-        due("11: stands in the west, hands in the east", x.against(0, 0, 0, 1, 1), 1 | 4 | 16 | 32 | 64);
+        due("11: stands in the west, hands in the east", x.against(0, 0, 0, 1, 1),
+                1 | 4 | 16 | 32 | 64);
         due("11: lies over the line", x.against(0, 0, 1, 1, 1), 1 | 16 | 32);
         due("11: strides over the line", x.against(0, 0, 2, 1, 1), 1 | 16 | 32);
         due("11: strides in the west", x.against(0, 0, 2, 1, 3), 1 | 16 | 32 | 64);
@@ -149,6 +150,15 @@ public final class ActsTest {
         x.event(8, 2, 0, 0, 0);
         due("13: the least hour, the least number", x.first(0), 2);
         due("13: the least law", x.first(1), 1);
+        BorderThroughBed y = Check.with(".|./.|.", "wa0-0", "eb0-0f");
+        y.event(3, 0, 0, 0, 0);
+        y.event(3, 0, 0, 0, 0);
+        due("13: the first of all", y.first(0), 0);
+        BorderThroughBed z = Check.with(".|./.|.", "wa0-0h", "eb0-0f");
+        z.event(3, 1, 1, 1, 3);
+        z.event(4, 1, 0, 1, 3);
+        due("13: as each one lies or stands", z.first(0), 1);
+        due("13: the law of it", z.first(1), 1);
     }
 
     private static void map() {

@@ -244,6 +244,11 @@ public final class TextsTest {
         due("9: things don't count", y.cell(4, 3), 0);
         BorderThroughBed z = Check.with("|.#d/|.##");
         due("9: none is reached", z.cell(0, 3), NONE);
+        BorderThroughBed over = Check.with("..|d/d..|");
+        due("9: the line costs nothing", over.cell(1, 3), 2);
+        BorderThroughBed three = Check.with("|....d/d....|");
+        due("9: one step less over the line", three.cell(1, 3), 5);
+        due("9: one step more over the line", three.cell(2, 3), 4);
         BorderThroughBed none = Check.with("|../|..");
         due("9: no door", none.cell(3, 3), NONE);
     }

@@ -23,6 +23,8 @@ public final class ThingsTest {
         movesTwo();
         movesSwap();
         movesTurn();
+        movesToTheFirstCell();
+        movesTwoToTheFirstCell();
         CHECK.end();
     }
 
@@ -282,6 +284,34 @@ public final class ThingsTest {
         x.move(0, 2, 0);
         x.move(1, 0, 0);
         due("20: it is kept", x.kept(), 1);
+    }
+
+    private static void movesToTheFirstCell() {
+        BorderThroughBed x = Check.with("|..../|####", "ec0-12n");
+        x.thing(0, 1, 0);
+        x.thing(0, 3, 0);
+        x.thing(3, 2, 0);
+        x.habit(2, 12);
+        dueMoves("the first one to the first cell", x, 1, 0, 0, NONE, NONE);
+        BorderThroughBed y = Check.with("|.../|#.#");
+        y.thing(3, 0, 0);
+        y.thing(0, 1, 0);
+        y.thing(2, 2, 0);
+        y.habit(2, 0);
+        dueMoves("into the room below", y, 1, 1, 4 * 4, NONE, NONE);
+    }
+
+    private static void movesTwoToTheFirstCell() {
+        BorderThroughBed x = Check.with("..|./##|#", "wc0-0n");
+        x.thing(0, 2, 0);
+        x.thing(3, 0, 0);
+        x.habit(2, 0);
+        dueMoves("both ends of a corridor", x, 2, 0, 0, 1, 4 * 2);
+        BorderThroughBed y = Check.with(".|../#|#.", "eb0-0h");
+        y.thing(0, 1, 0);
+        y.thing(2, 2, 0);
+        y.habit(1, 0);
+        dueMoves("the table to the thing's cell", y, 2, 0, 4 * 2, 1, 4 * 1);
     }
 
     /** A bed of which the way alone is wrong: its cells stay. */
