@@ -18,6 +18,7 @@ final class ActEdges extends Edges {
         eventRefused();
         firstNone();
         firstOfLike();
+        firstByPostures();
         mapCounts();
         mapRefused();
     }
@@ -372,6 +373,29 @@ final class ActEdges extends Edges {
         }
         y.event(1, 0, 0, 0, 0);
         dueFirst("the last EVENT, the last LAW", y, 11, 7);
+    }
+
+    private static void oneFirst(String told, int act, int posture, int cell, int way, int law) {
+        BorderThroughBed x = with(".|./.|.", "wa0-0h", "ea0-0h", "ef0-0n", "wf0-0f", "eb0-0f");
+        due("an EVENT", x.event(9, act, posture, cell, way), 0);
+        dueFirst(told, x, law == NONE ? NONE : 0, law);
+    }
+
+    private static void firstByPostures() {
+        says(13, "FIRST: what = 0 the EVENT, 1 the least LAW that it is AGAINST; NONE.");
+        oneFirst("HEAD in the WEST", 0, STANDS, 0, RIGHT, 0);
+        oneFirst("HEAD in the EAST", 0, STANDS, 1, LEFT, 1);
+        oneFirst("HANDS in the EAST, FEET in the WEST", 5, STANDS, 0, RIGHT, 2);
+        oneFirst("HANDS and FEET in the WEST", 5, STANDS, 0, DOWN, 3);
+        oneFirst("HANDS and HEAD in the WEST, FEET in the EAST", 5, LIES, 0, RIGHT, NONE);
+        oneFirst("all in the WEST, LIES", 5, LIES, 0, DOWN, 3);
+        oneFirst("one FOOT in the EAST", 5, STRIDES, 0, RIGHT, NONE);
+        oneFirst("HANDS and HEAD in the EAST", 5, LIES, 1, LEFT, 2);
+        oneFirst("HANDS in the WEST, FEET in the EAST", 1, STANDS, 1, LEFT, 4);
+        oneFirst("FEET in the WEST, HEAD in the EAST", 1, LIES, 1, LEFT, NONE);
+        oneFirst("one FOOT in the WEST", 1, STRIDES, 3, LEFT, NONE);
+        oneFirst("all in the EAST", 1, STRIDES, 3, UP, 4);
+        oneFirst("an ACT without LAWS", 2, STANDS, 0, UP, NONE);
     }
 
     // ---- map

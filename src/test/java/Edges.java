@@ -108,6 +108,11 @@ abstract class Edges {
         due("the HOUSE " + house, Check.house(x, house), house.replaceAll("[|/]", "").length());
     }
 
+    /** A ROW of FLOOR with so many CELLS ahead of THE LINE. */
+    static String rowWith(int width, int line) {
+        return ".".repeat(line) + "|" + ".".repeat(width - line);
+    }
+
     /** No HOUSE, but some of all that needs none. */
     static BorderThroughBed bare() {
         BorderThroughBed x = new BorderThroughBed();
@@ -169,6 +174,12 @@ abstract class Edges {
             x.moves(0);
         }
         Check.page(x, "q".repeat(40));
+        return x;
+    }
+
+    static BorderThroughBed someWith(String page) {
+        BorderThroughBed x = some();
+        Check.page(x, page);
         return x;
     }
 

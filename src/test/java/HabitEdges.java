@@ -19,6 +19,7 @@ final class HabitEdges extends Edges {
         anywhere();
         anyWay();
         striding();
+        keptAnew();
         movesNone();
         movesTold();
         movesTwelve();
@@ -28,6 +29,7 @@ final class HabitEdges extends Edges {
         atOnce();
         likeOnes();
         likeSecondOnes();
+        onesThatStay();
         notByTwo();
     }
 
@@ -267,6 +269,32 @@ final class HabitEdges extends Edges {
         dueKept("the FOOT is at a THING", withThing(".|./#|#", THING, 0, 0, fromEast), 4, true);
     }
 
+    private static void keptAnew() {
+        says(20, "It is KEPT, if there is somewhere where it is AGAINST no LAW:");
+        for (int act = 0; act < 6; act++) {
+            for (int house = 0; house < 2; house++) {
+                BorderThroughBed x = withThing("|.../|...", BED, 0, RIGHT);
+                x.thing(BENCH, 5, 0);
+                dueKept("ahead of the LAW", x, act, true);
+                Check.law(x, "e" + "abcdef".charAt(act) + "1-2");
+                due("another hour's LAW", x.kept(), 1);
+                if (house == 0) {
+                    Check.law(x, "e" + "abcdef".charAt(act) + "0-1");
+                    due("behind the LAW, ACT " + act, x.kept(), 0);
+                } else {
+                    read(x, "##|/##|");
+                    dueKept("in another HOUSE", x, act, false);
+                }
+            }
+        }
+        BorderThroughBed y = wide();
+        y.image();
+        dueKept("ahead of restore()", y, 3, true);
+        y.restore();
+        due("no HABITS any more", y.kept(), 0);
+        dueKept("another HABIT", y, 0, false);
+    }
+
     // ---- moves
 
     private static void dueMoves(String told, BorderThroughBed x, int... moves) {
@@ -377,6 +405,13 @@ final class HabitEdges extends Edges {
         BorderThroughBed bed = withThing("######|/######|/######|/####.|.", BED, 22, RIGHT, "wa0-0h");
         bed.habit(0, 0);
         dueMoves("the greatest PLACE of a BED", bed, 1, 0, 95, NONE, NONE);
+        says(21, "THINGS (3 at most, numbered) are of KINDS: 0 THING, 1 BED, 2 TABLE, 3 BENCH, in a "
+                + "FLOOR CELL, towards a WAY (a BED; 0 else).");
+        dueMoves("no BENCH in a DOOR", bench("..|d../##|###", BENCH, 0), 1, 0, 12, NONE, NONE);
+        dueMoves("no BENCH in a WALL", bench("..|#../##|###", BENCH, 0), 1, 0, 12, NONE, NONE);
+        BorderThroughBed door = withThing("..|d../##|###", BED, 0, RIGHT, "wa0-0h");
+        door.habit(0, 0);
+        dueMoves("no BED into a DOOR", door, 1, 0, 13, NONE, NONE);
         BorderThroughBed up = withThing("######|/######|/#####.|/#####|.", BED, 17, DOWN, "wa0-0h");
         up.habit(0, 0);
         dueMoves("a BED towards 0", up, 1, 0, 92, NONE, NONE);
@@ -421,6 +456,35 @@ final class HabitEdges extends Edges {
                 2, 16);
         dueMoves("the first and the third one", bench(CORRIDOR, BED, 3, THING, 0, BENCH, 1), 2, 0, 5, 2,
                 16);
+    }
+
+    private static void onesThatStay() {
+        says(21, "so that all HABITS are KEPT;");
+        BorderThroughBed x = with("..|./##|#", "wd0-0h");
+        x.thing(THING, 1, 0);
+        x.thing(BENCH, 0, 0);
+        x.habit(3, 0);
+        x.habit(2, 0);
+        due("the first one alone", x.kept(), 1);
+        dueMoves("not the second one alone", x, 2, 0, 0, 1, 4);
+        BorderThroughBed y = with("....|../.###|#.", "wc0-0h", "wc0-0n", "eb0-0h", "eb0-0n");
+        y.thing(TABLE, 6, 0);
+        y.thing(BED, 5, DOWN);
+        y.thing(BENCH, 1, 0);
+        y.habit(2, 0);
+        y.habit(1, 0);
+        due("the second one alone", y.kept(), 2);
+        dueMoves("the TABLE stays where it is", y, 2, 1, 5, 2, 16);
+        BorderThroughBed z = with("....|../.###|#.", "wc0-0h", "wc0-0n", "eb0-0h", "eb0-0n",
+                "ed0-0h");
+        z.thing(TABLE, 6, 0);
+        z.thing(BED, 5, DOWN);
+        z.thing(BENCH, 1, 0);
+        for (int act : new int[] {2, 1, 3}) {
+            z.habit(act, 0);
+        }
+        due("all but the first one", z.kept(), 6);
+        dueMoves("three HABITS", z, 2, 1, 5, 2, 16);
     }
 
     private static void notByTwo() {

@@ -27,10 +27,6 @@ final class HouseEdges extends Edges {
         cellDoor();
     }
 
-    private static String rowWith(int width, int line) {
-        return ".".repeat(line) + "|" + ".".repeat(width - line);
-    }
-
     private static String joined(int rows, String row) {
         return String.join("/", Collections.nCopies(rows, row));
     }
@@ -251,12 +247,6 @@ final class HouseEdges extends Edges {
         }
     }
 
-    private static BorderThroughBed someWith(String text) {
-        BorderThroughBed x = some();
-        Check.page(x, text);
-        return x;
-    }
-
     private static void houseRefused() {
         says(5, "STATE: it is none.");
         refused("an empty page", () -> someWith(""), x -> x.house(), STATE);
@@ -370,6 +360,10 @@ final class HouseEdges extends Edges {
         dueDoors("|.../|d.d", 3, 3, 5, 3, 3, 5);
         dueDoors("|.d/|d.", 1, 1, 2, 1);
         dueDoors("|.d..d./|......", 1, 1, 1, 4, 4, 4, 1, 1, 1, 4, 4, 4);
+        dueDoors(".d..|d./....|..", 1, 1, 1, 4, 4, 4, 1, 1, 1, 4, 4, 4);
+        dueDoors("d|.../|#..d", 0, 0, 0, 7, NONE, 0, 7, 7);
+        dueDoors("|d../...|/|d..", 0, 0, 0, 0, 0, 0, 6, 6, 6);
+        dueDoors("|#d./...|/d..|", NONE, 1, 1, 6, 1, 1, 6, 6, 6);
         BorderThroughBed x = with("|..d/|##./|d..");
         due("ahead of the THING", x.cell(0, 3), 2);
         x.thing(0, 1, 0);

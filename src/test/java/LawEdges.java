@@ -204,12 +204,6 @@ final class LawEdges extends Edges {
         refused("a ninth of an empty page", () -> fullWith(""), y -> y.law(), STATE);
     }
 
-    private static BorderThroughBed someWith(String text) {
-        BorderThroughBed x = some();
-        Check.page(x, text);
-        return x;
-    }
-
     private static void lawRefused() {
         says(6, "STATE: it is none;");
         refused("an empty page", () -> someWith(""), x -> x.law(), STATE);

@@ -240,6 +240,12 @@ final class StateEdges extends Edges {
                 new int[][] {{21, 0, 1, 0, 1}, {2, 1, 0, 11, 0}}, new int[][] {{0, 3}, {1, 4}},
                 new int[][] {{3, 1}, {8, 0}}));
         int[][] events = new int[12][];
+        BorderThroughBed x = with(".|./.|d", "wa0-0h", "ea0-0n", "wb0-0f", "eb0-0o");
+        for (int i = 0; i < 12; i++) {
+            events[i] = new int[] {23 - i, i / 6, i % 3, i % 4, (i + 1) % 4};
+            x.event(23 - i, i / 6, i % 3, i % 4, (i + 1) % 4);
+        }
+        due("EVENTS on both SIDES", x.digest(), digestBy(x, "", events, none, none));
         int[][] habits = new int[6][];
         int[][] judgments = new int[10][];
         for (int i = 0; i < 12; i++) {

@@ -278,10 +278,6 @@ final class WayEdges extends Edges {
 
     // ---- drawn
 
-    private static String rowWith(int width, int line) {
-        return ".".repeat(line) + "|" + ".".repeat(width - line);
-    }
-
     private static int within(int width, int line) {
         return line < 0 ? 0 : Math.min(line, width);
     }
@@ -330,6 +326,14 @@ final class WayEdges extends Edges {
         int[] bits = {4 | 2, 4 | 2, 2, 0, 1, 1, 1};
         for (int by = -3; by <= 3; by++) {
             due("HANDS and FEET, by " + by, hands.drawn(by), bits[by + 3]);
+        }
+        BorderThroughBed lies = with("..|./##|#", "ea0-0n");
+        for (int posture = 0; posture < 3; posture++) {
+            lies.event(0, 0, posture, 1, RIGHT);
+        }
+        int[] reached = {7, 7, 7, 1, 0, 0, 0};
+        for (int by = -3; by <= 3; by++) {
+            due("HANDS of each POSTURE, by " + by, lies.drawn(by), reached[by + 3]);
         }
         BorderThroughBed door = with("d..|/...|", "wa0-0o", "eb0-0o");
         door.event(0, 0, 0, 5, 0);
