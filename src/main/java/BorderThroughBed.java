@@ -7,7 +7,7 @@ public final class BorderThroughBed {
     private static final int FLOOR = 0, WALL = 1, DOOR = 2;
     private static final int SIDES = 2, ACTS = 6, HOURS = 24, POSTURES = 3, PARTS = 4;
     private static final int STANDS = 0, LIES = 1, STRIDES = 2;
-    private static final int HEAD = 0, HANDS = 1, ONE_FOOT = 2, OTHER_FOOT = 3;
+    private static final int HANDS = 1, ONE_FOOT = 2, OTHER_FOOT = 3;
     private static final int BED = 1, TABLE = 2, BENCH = 3, THING_KINDS = 4;
     private static final int MOST_LAWS = 8, MOST_EVENTS = 12, MOST_THINGS = 3, MOST_HABITS = 6;
     private static final int MOST_JUDGMENTS = 10, MOST_MOVES = 12, MOST_WALKS = 20, FURTHEST = 3;

@@ -165,6 +165,11 @@ final class WayEdges extends Edges {
                 UNKNOWN);
         refused("from a WALL", Edges::some, x -> x.cheapest(5, 0, 0), UNKNOWN);
         refused("to a WALL", Edges::some, x -> x.cheapest(0, 5, 0), UNKNOWN);
+        refused("from a WALL to itself", Edges::some, x -> x.cheapest(5, 5, 0), UNKNOWN);
+        due("from a DOOR to FLOOR", some().cheapest(3, 1, 5), 7);
+        due("from FLOOR to a DOOR", some().cheapest(1, 3, 5), 7);
+        due("from a DOOR to a DOOR", with("dd|/#.|").cheapest(1, 0, 9), 1);
+        due("from a DOOR to itself", some().cheapest(3, 3, 9), 0);
         says(23, "OUTSIDE: toll.");
         range("cheapest(0, 1, n)", Edges::some, (x, n) -> x.cheapest(0, 1, n), 0, 9, OUTSIDE);
         range("cheapest(0, 0, n)", Edges::some, (x, n) -> x.cheapest(0, 0, n), 0, 9, OUTSIDE);
